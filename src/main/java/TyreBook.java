@@ -82,11 +82,9 @@ public final class TyreBook {
         if (!isKind(kind)) {
             return refuse(NOBODY);
         }
-        if (d < 0) {
-            return refuse(BELOW);
-        }
-        if (d > MOST_LEAST) {
-            return refuse(ROOM);
+        int wrong = outside(d, 0, MOST_LEAST);
+        if (wrong != 0) {
+            return refuse(wrong);
         }
         int was = at(leasts, kind);
         write(leasts, kind, d);
@@ -94,11 +92,9 @@ public final class TyreBook {
     }
 
     public int apart(int d) {
-        if (d < 0) {
-            return refuse(BELOW);
-        }
-        if (d > MOST_APART) {
-            return refuse(ROOM);
+        int wrong = outside(d, 0, MOST_APART);
+        if (wrong != 0) {
+            return refuse(wrong);
         }
         int was = mostApart;
         mostApart = d;
@@ -109,11 +105,9 @@ public final class TyreBook {
         if (!isMaker(m)) {
             return refuse(NOBODY);
         }
-        if (mean < 0) {
-            return refuse(BELOW);
-        }
-        if (mean > MOST_MEAN) {
-            return refuse(ROOM);
+        int wrong = outside(mean, 0, MOST_MEAN);
+        if (wrong != 0) {
+            return refuse(wrong);
         }
         int was = at(means, m);
         write(means, m, mean);
@@ -202,11 +196,9 @@ public final class TyreBook {
         if (t.where == AT_TREADER || t.where == IS_CAST) {
             return refuse(STATE);
         }
-        if (depth < 0) {
-            return refuse(BELOW);
-        }
-        if (depth > MOST_DEPTH) {
-            return refuse(ROOM);
+        int wrong = outside(depth, 0, MOST_DEPTH);
+        if (wrong != 0) {
+            return refuse(wrong);
         }
         t.addReading(depth);
         t.fitWear(at(means, t.maker));
@@ -285,11 +277,9 @@ public final class TyreBook {
         if (t == null) {
             return refuse(NOBODY);
         }
-        if (n < 0) {
-            return refuse(BELOW);
-        }
-        if (n > MOST_LENGTHS) {
-            return refuse(ROOM);
+        int wrong = outside(n, 0, MOST_LENGTHS);
+        if (wrong != 0) {
+            return refuse(wrong);
         }
         return t.depthAfter(n);
     }
@@ -299,11 +289,9 @@ public final class TyreBook {
         if (t == null) {
             return refuse(NOBODY);
         }
-        if (least < 0) {
-            return refuse(BELOW);
-        }
-        if (least > MOST_DEPTH) {
-            return refuse(ROOM);
+        int wrong = outside(least, 0, MOST_DEPTH);
+        if (wrong != 0) {
+            return refuse(wrong);
         }
         return t.endFor(least);
     }
@@ -355,11 +343,9 @@ public final class TyreBook {
     }
 
     public int days(int n) {
-        if (n < 1) {
-            return refuse(BELOW);
-        }
-        if (n > LAST_DAY - today) {
-            return refuse(ROOM);
+        int wrong = outside(n, 1, LAST_DAY - today);
+        if (wrong != 0) {
+            return refuse(wrong);
         }
         int until = today + n;
         // The LOG may fill on the way, so those that are back are written in the order of their DAYS.
@@ -380,11 +366,9 @@ public final class TyreBook {
         if (w == null || !isMaker(maker)) {
             return refuse(NOBODY);
         }
-        if (n < 0) {
-            return refuse(BELOW);
-        }
-        if (n > MOST_LENGTHS) {
-            return refuse(ROOM);
+        int wrong = outside(n, 0, MOST_LENGTHS);
+        if (wrong != 0) {
+            return refuse(wrong);
         }
         newWear.become(at(means, maker), MEAN_LENGTHS);
         int together = 0;
@@ -397,13 +381,12 @@ public final class TyreBook {
     public int asOf(int tyre, int day) {
         Tyre t = tyreAt(tyre);
         if (t == null) {
+            // Where a tyre was may be -1 to -3, so these refusals have numbers of their own.
             return refuse(NOBODY) - 10;
         }
-        if (day < 0) {
-            return refuse(BELOW) - 10;
-        }
-        if (day > today) {
-            return refuse(ROOM) - 10;
+        int wrong = outside(day, 0, today);
+        if (wrong != 0) {
+            return refuse(wrong) - 10;
         }
         return log.whereWas(t.number, day);
     }
@@ -469,6 +452,11 @@ public final class TyreBook {
     private int refuse(int answer) {
         write(refusals, -answer, at(refusals, -answer) + 1);
         return answer;
+    }
+
+    /** 0 for a number from the least to the greatest, else the refusal that is due. */
+    private static int outside(int n, int least, int greatest) {
+        return n < least ? BELOW : n > greatest ? ROOM : 0;
     }
 
     private Wagon wagonAt(int number) {

@@ -1,3 +1,9 @@
+import java.lang.reflect.Method;
+import java.lang.reflect.Modifier;
+import java.util.Arrays;
+import java.util.Map;
+import java.util.TreeMap;
+
 /** Long runs of calls, chosen by a fixed sequence of numbers: TyreBook and Model must answer alike. */
 public final class ModelRunsTest {
     private static final String[] NAMES = {"wagon", "place", "least", "apart", "maker", "buy", "put", "take", "swap",
@@ -14,12 +20,17 @@ public final class ModelRunsTest {
         {1, 2, 0, 0, 0, 30, 40, 20, 80, 2, 2, 0, 0, 0, 20, 0, 0, 0, 20, 0, 6, 2, 0, 10, 4, 0, 0, 4},
         {0, 0, 0, 0, 0, 1, 2, 1, 160, 4, 6, 0, 0, 1, 40, 0, 0, 0, 3, 0, 1, 1, 0, 6, 3, 0, 2, 4},
         {0, 0, 1, 1, 2, 1, 1, 0, 1, 30, 160, 2, 2, 2, 4, 4, 4, 4, 0, 0, 0, 0, 4, 0, 6, 6, 1, 1},
+        {0, 0, 0, 0, 1, 0, 20, 2, 1, 80, 40, 2, 4, 2, 4, 20, 8, 8, 3, 0, 0, 6, 4, 2, 6, 20, 1, 1},
     };
-    /** Kinds of runs whose wagons are whole from the start: swapped until the LOG is full; driven on and on. */
+    /** Kinds of runs whose wagons are whole from the start: swapped until the LOG is full; driven on and on; read often. */
     private static final int SWAPPED = 6;
     private static final int DRIVEN = 7;
+    private static final int WELL_READ = 8;
 
     private static final Check CHECK = new Check();
+    private static final Map<String, Method> BOOK = faceOf(TyreBook.class);
+    private static final Map<String, Method> MODEL = faceOf(Model.class);
+    private static final Map<String, Integer> SEEN = new TreeMap<>();
     private long seed;
     private int style;
     private final int[] places = new int[5];
@@ -57,11 +68,15 @@ public final class ModelRunsTest {
     }
 
     private int depthToRead() {
-        return style == DRIVEN ? 170 + below(12) : below(3) == 0 ? number(301) : 120 + below(62);
+        return style >= DRIVEN ? 170 + below(12) : below(3) == 0 ? number(301) : 120 + below(62);
     }
 
     private int wagonNumber() {
         return style == 0 ? number(3) : style == 3 ? number(2) : below(12) == 0 ? number(5) : below(2);
+    }
+
+    private int tyreNumber() {
+        return number(style == 5 ? 40 : style == WELL_READ ? 3 : 16);
     }
 
     private int[] args(int op) {
@@ -72,20 +87,20 @@ public final class ModelRunsTest {
             case "apart": return new int[] {number(101), 0, 0, 0};
             case "maker": return new int[] {number(4), below(4) == 0 ? 0 : number(1001), 0, 0};
             case "buy": return new int[] {number(4), 0, 0, 0};
-            case "put": return new int[] {number(style == 5 ? 40 : 16), wagonNumber(), number(7), 0};
+            case "put": return new int[] {tyreNumber(), wagonNumber(), number(7), 0};
             case "take": return new int[] {wagonNumber(), number(7), 0, 0};
             case "swap": return swapArgs();
-            case "read": return new int[] {number(16), depthToRead(), 0, 0};
+            case "read": return new int[] {tyreNumber(), depthToRead(), 0, 0};
             case "go": return new int[] {wagonNumber(), below(4) > 0 ? number(10001) : 10000 - below(3), below(2), 0};
-            case "wear": return new int[] {number(16), number(2), 0, 0};
-            case "depth": return new int[] {number(16), below(2) == 0 ? number(1000001) : number(100000), 0, 0};
-            case "end": return new int[] {number(16), below(2) == 0 ? number(301) : number(180), 0, 0};
-            case "send": case "mend": case "cast": return new int[] {number(16), 0, 0, 0};
+            case "wear": return new int[] {tyreNumber(), number(2), 0, 0};
+            case "depth": return new int[] {tyreNumber(), below(2) == 0 ? number(1000001) : number(100000), 0, 0};
+            case "end": return new int[] {tyreNumber(), below(2) == 0 ? number(301) : number(180), 0, 0};
+            case "send": case "mend": case "cast": return new int[] {tyreNumber(), 0, 0, 0};
             case "days": return new int[] {below(20) == 0 ? number(2001) : number(14), 0, 0, 0};
             case "few": return new int[] {wagonNumber(), number(4), below(9) == 0 ? 0 : number(1000001), 0};
-            case "asOf": return new int[] {number(16), number(below(3) == 0 ? 300 : 40), 0, 0};
-            case "tyreOf": return new int[] {number(16), number(9), 0, 0};
-            case "reading": return new int[] {number(16), number(12), number(2), 0};
+            case "asOf": return new int[] {tyreNumber(), number(below(3) == 0 ? 300 : 40), 0, 0};
+            case "tyreOf": return new int[] {tyreNumber(), number(9), 0, 0};
+            case "reading": return new int[] {tyreNumber(), number(12), number(2), 0};
             case "placeOf": return new int[] {wagonNumber(), number(7), number(3), 0};
             case "count": return new int[] {number(18), 0, 0, 0};
             default: return new int[] {wagonNumber(), 0, 0, 0};
@@ -107,80 +122,35 @@ public final class ModelRunsTest {
         return 0;
     }
 
-    private static long ask(TyreBook x, String name, int a, int b, int c, int d) {
-        switch (name) {
-            case "wagon": return x.wagon();
-            case "place": return x.place(a, b);
-            case "least": return x.least(a, b);
-            case "apart": return x.apart(a);
-            case "maker": return x.maker(a, b);
-            case "buy": return x.buy(a);
-            case "put": return x.put(a, b, c);
-            case "take": return x.take(a, b);
-            case "swap": return x.swap(a, b, c, d);
-            case "read": return x.read(a, b);
-            case "go": return x.go(a, b, c == 1);
-            case "why": return x.why(a);
-            case "far": return x.far(a);
-            case "best": return x.best(a);
-            case "turn": return x.turn(a);
-            case "wear": return x.wear(a, b);
-            case "depth": return x.depth(a, b);
-            case "end": return x.end(a, b);
-            case "send": return x.send(a);
-            case "mend": return x.mend(a);
-            case "cast": return x.cast(a);
-            case "days": return x.days(a);
-            case "few": return x.few(a, b, c);
-            case "asOf": return x.asOf(a, b);
-            case "tyreOf": return x.tyreOf(a, b);
-            case "reading": return x.reading(a, b, c);
-            case "placeOf": return x.placeOf(a, b, c);
-            default: return x.count(a);
+    private static Map<String, Method> faceOf(Class<?> c) {
+        Map<String, Method> face = new TreeMap<>();
+        for (String name : NAMES) {
+            for (Method m : c.getDeclaredMethods()) {
+                if (m.getName().equals(name) && !Modifier.isPrivate(m.getModifiers())) {
+                    face.put(name, m);
+                }
+            }
         }
+        return face;
     }
 
-    private static long ask(Model x, String name, int a, int b, int c, int d) {
-        switch (name) {
-            case "wagon": return x.wagon();
-            case "place": return x.place(a, b);
-            case "least": return x.least(a, b);
-            case "apart": return x.apart(a);
-            case "maker": return x.maker(a, b);
-            case "buy": return x.buy(a);
-            case "put": return x.put(a, b, c);
-            case "take": return x.take(a, b);
-            case "swap": return x.swap(a, b, c, d);
-            case "read": return x.read(a, b);
-            case "go": return x.go(a, b, c == 1);
-            case "why": return x.why(a);
-            case "far": return x.far(a);
-            case "best": return x.best(a);
-            case "turn": return x.turn(a);
-            case "wear": return x.wear(a, b);
-            case "depth": return x.depth(a, b);
-            case "end": return x.end(a, b);
-            case "send": return x.send(a);
-            case "mend": return x.mend(a);
-            case "cast": return x.cast(a);
-            case "days": return x.days(a);
-            case "few": return x.few(a, b, c);
-            case "asOf": return x.asOf(a, b);
-            case "tyreOf": return x.tyreOf(a, b);
-            case "reading": return x.reading(a, b, c);
-            case "placeOf": return x.placeOf(a, b, c);
-            default: return x.count(a);
+    private static long ask(Object x, Method m, int[] a) {
+        Object[] given = new Object[m.getParameterCount()];
+        for (int i = 0; i < given.length; i++) {
+            given[i] = m.getParameterTypes()[i] == boolean.class ? (Object) (a[i] == 1) : (Object) a[i];
+        }
+        try {
+            return ((Number) m.invoke(x, given)).longValue();
+        } catch (ReflectiveOperationException e) {
+            throw new IllegalStateException(m + " with " + Arrays.toString(a), e);
         }
     }
 
     private static void both(TyreBook book, Model model, String where, String name, int[] a) {
-        long want = ask(model, name, a[0], a[1], a[2], a[3]);
-        String told = where + name + "(" + a[0] + ", " + a[1] + ", " + a[2] + ", " + a[3] + ")";
-        CHECK.due(told, ask(book, name, a[0], a[1], a[2], a[3]), want);
+        long want = ask(model, MODEL.get(name), a);
+        CHECK.due(where + name + Arrays.toString(a), ask(book, BOOK.get(name), a), want);
         tally(name, want);
     }
-
-    private static final java.util.Map<String, Integer> SEEN = new java.util.TreeMap<>();
 
     private static void tally(String name, long want) {
         String key = name + (want < 0 ? " " + want : want == 0 ? " 0" : " +");
@@ -191,7 +161,7 @@ public final class ModelRunsTest {
         int calls = 0;
         int tyre = 0;
         boolean whole = style >= SWAPPED || below(2) == 0;
-        if (style == DRIVEN) {
+        if (style >= DRIVEN) {
             both(book, model, where, "apart", new int[] {100, 0, 0, 0});
             both(book, model, where, "maker", new int[] {0, below(2), 0, 0});
             both(book, model, where, "maker", new int[] {1, below(8), 0, 0});
@@ -200,10 +170,10 @@ public final class ModelRunsTest {
         for (int w = 0; w < 2; w++) {
             both(book, model, where, "wagon", new int[4]);
             calls++;
-            places[w] = 3 + below(5);
+            places[w] = style == WELL_READ ? 1 + below(2) : 3 + below(5);
             for (int p = 0; p < places[w]; p++) {
                 both(book, model, where, "place", new int[] {w, below(5), 0, 0});
-                both(book, model, where, "buy", new int[] {below(style == DRIVEN ? 2 : 4), 0, 0, 0});
+                both(book, model, where, "buy", new int[] {below(style >= DRIVEN ? 2 : 4), 0, 0, 0});
                 calls += 2;
                 if (whole) {
                     both(book, model, where, "put", new int[] {tyre, w, p, 0});
@@ -226,7 +196,7 @@ public final class ModelRunsTest {
     }
 
     public static void main(String[] args) {
-        int runs = args.length > 0 ? Integer.parseInt(args[0]) : 600;
+        int runs = args.length > 0 ? Integer.parseInt(args[0]) : 720;
         for (int i = 0; i < runs; i++) {
             new ModelRunsTest(i).run(i);
         }

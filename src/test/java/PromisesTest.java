@@ -239,6 +239,9 @@ public final class PromisesTest {
         due("the first stays", x.reading(0, 0, 0), 0);
         due("its depth", x.reading(0, 0, 1), 180);
         due("the eldest but that is gone", x.reading(0, 1, 0), 200);
+        for (int i = 1; i <= 10; i++) {
+            due("depth of reading " + i, x.reading(0, i, 1), 179 - i);
+        }
         due("the latest", x.reading(0, 11, 0), 1200);
         due("its depth", x.reading(0, 11, 1), 100);
         due("0", x.read(0, 0), 12);
@@ -493,6 +496,36 @@ public final class PromisesTest {
         due("lower", x.wear(1, 1), 70);
         x.maker(0, 7);
         due("mean no longer counts", x.wear(1, 0), 3);
+        wearOfThirteen();
+        wearOfNewTread();
+    }
+
+    /** The dropped reading counts no more: (0,180), then (1000,180 - i) for what is left of 13. */
+    private static void wearOfThirteen() {
+        TyreBook x = laidWith(1);
+        x.go(0, 1000, true);
+        for (int i = 1; i <= 12; i++) {
+            x.read(0, 180 - 10 * i);
+        }
+        // First and eleven at 1000, 160 down to 60: their mean is 110, so the line falls 70 in 1000.
+        due("thirteen readings", x.wear(0, 0), 7);
+        due("lower", x.wear(0, 1), 100);
+    }
+
+    private static void wearOfNewTread() {
+        TyreBook x = laidWith(1);
+        x.go(0, 1000, true);
+        x.read(0, 170);
+        x.read(0, 160);
+        x.read(0, 90);
+        x.take(0, 0);
+        x.send(0);
+        x.days(10);
+        x.put(0, 0, 0);
+        x.go(0, 1000, true);
+        x.read(0, 175);
+        due("old readings do not count", x.wear(0, 0), 1);
+        due("lower", x.wear(0, 1), 200);
     }
 
     private static void promise18() {
@@ -656,6 +689,14 @@ public final class PromisesTest {
         due("back on day 10", x.asOf(2, 10), -1);
         due("still there on day 9", x.asOf(2, 9), -2);
         due("the later one is not told", x.asOf(taken, 23), -2);
+
+        TyreBook y = withLog(596);
+        int lesser = y.take(0, 0);
+        y.send(2);
+        y.send(lesser);
+        y.days(10);
+        due("on the same day: the lesser number is kept", y.asOf(lesser, 10), -1);
+        due("the greater is not", y.asOf(2, 10), -2);
     }
 
     private static void promise24() {
@@ -701,6 +742,7 @@ public final class PromisesTest {
         x.send(0);
         x.days(12);
         x.cast(0);
+        due("day 0", x.asOf(0, 0), -9);
         due("ahead of buying", x.asOf(0, 1), -9);
         due("the store", x.asOf(0, 2), -1);
         due("behind all acts of the day", x.asOf(0, 3), 11);
