@@ -496,8 +496,31 @@ public final class PromisesTest {
         due("lower", x.wear(1, 1), 70);
         x.maker(0, 7);
         due("mean no longer counts", x.wear(1, 0), 3);
+        due("7 by 100000 has no common factor", wearByMean(7), 700000);
+        due("1 by 100000", wearByMean(1), 100000);
+        due("1000 by 100000 is 1 by 100", wearByMean(1000), 100);
+        due("375 by 100000 is 3 by 800", wearByMean(375), 2400);
+        wearInOneLength();
         wearOfThirteen();
         wearOfNewTread();
+    }
+
+    /** Upper times lower number. */
+    private static long wearByMean(int mean) {
+        TyreBook x = laidWith(1);
+        x.maker(0, mean);
+        return x.wear(0, 0) * x.wear(0, 1);
+    }
+
+    private static void wearInOneLength() {
+        TyreBook x = laidWith(1);
+        x.go(0, 1, true);
+        x.read(0, 179);
+        due("1 in 1", x.wear(0, 0), 1);
+        due("lower", x.wear(0, 1), 1);
+        due("1 is left", x.depth(0, 178), 1);
+        due("nothing is left", x.depth(0, 179), 0);
+        due("end", x.end(0, 1), 178);
     }
 
     /** The dropped reading counts no more: (0,180), then (1000,180 - i) for what is left of 13. */
