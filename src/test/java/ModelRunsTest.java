@@ -1,6 +1,4 @@
 import java.lang.reflect.Method;
-import java.lang.reflect.Modifier;
-import java.util.Arrays;
 import java.util.Map;
 import java.util.TreeMap;
 
@@ -28,8 +26,8 @@ public final class ModelRunsTest {
     private static final int WELL_READ = 8;
 
     private static final Check CHECK = new Check();
-    private static final Map<String, Method> BOOK = faceOf(TyreBook.class);
-    private static final Map<String, Method> MODEL = faceOf(Model.class);
+    private static final Map<String, Method> BOOK = Face.of(TyreBook.class);
+    private static final Map<String, Method> MODEL = Face.of(Model.class);
     private static final Map<String, Integer> SEEN = new TreeMap<>();
     private long seed;
     private int style;
@@ -122,33 +120,9 @@ public final class ModelRunsTest {
         return 0;
     }
 
-    private static Map<String, Method> faceOf(Class<?> c) {
-        Map<String, Method> face = new TreeMap<>();
-        for (String name : NAMES) {
-            for (Method m : c.getDeclaredMethods()) {
-                if (m.getName().equals(name) && !Modifier.isPrivate(m.getModifiers())) {
-                    face.put(name, m);
-                }
-            }
-        }
-        return face;
-    }
-
-    private static long ask(Object x, Method m, int[] a) {
-        Object[] given = new Object[m.getParameterCount()];
-        for (int i = 0; i < given.length; i++) {
-            given[i] = m.getParameterTypes()[i] == boolean.class ? (Object) (a[i] == 1) : (Object) a[i];
-        }
-        try {
-            return ((Number) m.invoke(x, given)).longValue();
-        } catch (ReflectiveOperationException e) {
-            throw new IllegalStateException(m + " with " + Arrays.toString(a), e);
-        }
-    }
-
     private static void both(TyreBook book, Model model, String where, String name, int[] a) {
-        long want = ask(model, MODEL.get(name), a);
-        CHECK.due(where + name + Arrays.toString(a), ask(book, BOOK.get(name), a), want);
+        long want = Face.ask(model, MODEL.get(name), a);
+        CHECK.due(where + Face.told(name, a), Face.ask(book, BOOK.get(name), a), want);
         tally(name, want);
     }
 

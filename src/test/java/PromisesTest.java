@@ -9,51 +9,6 @@ public final class PromisesTest {
         CHECK.due(now + ": " + call, got, want);
     }
 
-    /** A wagon 0 with places of these kinds, each with a new tyre of maker 0 (tyre p on place p). */
-    private static TyreBook laidWith(int... kinds) {
-        TyreBook x = new TyreBook();
-        x.wagon();
-        for (int p = 0; p < kinds.length; p++) {
-            x.place(0, kinds[p]);
-            x.buy(0);
-            x.put(p, 0, p);
-        }
-        return x;
-    }
-
-    /** Only for a tyre that has not gone yet: all its readings are at LENGTHS 0, so WEAR stays by MEAN. */
-    private static void setDepth(TyreBook x, int tyre, int depth) {
-        x.read(tyre, depth);
-    }
-
-    /** A book whose LOG has this many: wagon 0 with tyres 0 and 1 on places 0 and 1, place 2 empty; tyre 2 in the store. */
-    private static TyreBook withLog(int kept) {
-        TyreBook x = laidWith(1, 1);
-        x.place(0, 1);
-        x.buy(0);
-        int log = 5;
-        if ((kept - log) % 2 != 0) {
-            x.swap(0, 1, 0, 2);
-            x.take(0, 2);
-            x.put(1, 0, 1);
-            log += 3;
-        }
-        for (; log < kept; log += 2) {
-            x.swap(0, 0, 0, 1);
-        }
-        due("log made", x.count(7), kept);
-        return x;
-    }
-
-    /** Tyres 0 and 1 on places of these kinds, swapped until the LOG has this many (an even number). */
-    private static TyreBook swappedUntil(int kept, int kind, int other) {
-        TyreBook x = laidWith(kind, other);
-        for (int log = 4; log < kept; log += 2) {
-            x.swap(0, 0, 0, 1);
-        }
-        return x;
-    }
-
     private static void promise1() {
         TyreBook x = new TyreBook();
         for (int what = 0; what <= 7; what++) {
@@ -106,7 +61,7 @@ public final class PromisesTest {
     }
 
     private static void promise4() {
-        TyreBook x = laidWith(1);
+        TyreBook x = Books.laidWith(1);
         due("least", x.least(1, 100), 20);
         due("least again", x.least(1, 0), 100);
         due("0 is kept", x.least(1, 50), 0);
@@ -120,8 +75,8 @@ public final class PromisesTest {
     }
 
     private static void promise5() {
-        TyreBook x = laidWith(2, 2);
-        setDepth(x, 1, 155);
+        TyreBook x = Books.laidWith(2, 2);
+        Books.setDepth(x, 1, 155);
         due("25 apart", x.why(0), 4);
         due("apart", x.apart(25), 20);
         due("25 is not more", x.why(0), -9);
@@ -164,12 +119,12 @@ public final class PromisesTest {
         due("its reading", x.reading(39, 0, 1), 180);
         due("in the store", x.count(3), 40);
         due("log", x.count(7), 40);
-        due("with a full log", withLog(600).buy(0), -6);
-        due("with room for one", withLog(599).buy(0), 3);
+        due("with a full log", Books.withLog(600).buy(0), -6);
+        due("with room for one", Books.withLog(599).buy(0), 3);
     }
 
     private static void promise8() {
-        TyreBook x = laidWith(0, 4);
+        TyreBook x = Books.laidWith(0, 4);
         x.place(0, 3);
         x.buy(0);
         due("a place with a tyre", x.put(2, 0, 0), -2);
@@ -183,13 +138,13 @@ public final class PromisesTest {
         due("where", x.tyreOf(2, 6), 2);
         due("the place's tyre", x.placeOf(0, 2, 1), 2);
         due("on places", x.count(4), 3);
-        due("with a full log", withLog(600).put(2, 0, 2), -6);
-        due("state ahead of room", withLog(600).put(0, 0, 2), -2);
-        due("with room for one", withLog(599).put(2, 0, 2), 1);
+        due("with a full log", Books.withLog(600).put(2, 0, 2), -6);
+        due("state ahead of room", Books.withLog(600).put(0, 0, 2), -2);
+        due("with room for one", Books.withLog(599).put(2, 0, 2), 1);
     }
 
     private static void promise9() {
-        TyreBook x = laidWith(0, 4);
+        TyreBook x = Books.laidWith(0, 4);
         due("take", x.take(0, 1), 1);
         due("empty", x.take(0, 1), -2);
         due("no place", x.take(0, 2), -1);
@@ -197,13 +152,13 @@ public final class PromisesTest {
         due("where", x.tyreOf(1, 6), -1);
         due("the place's tyre", x.placeOf(0, 1, 1), -9);
         due("in the store", x.count(3), 1);
-        due("with a full log", withLog(600).take(0, 0), -6);
-        due("state ahead of room", withLog(600).take(0, 2), -2);
-        due("with room for one", withLog(599).take(0, 1), 0);
+        due("with a full log", Books.withLog(600).take(0, 0), -6);
+        due("state ahead of room", Books.withLog(600).take(0, 2), -2);
+        due("with room for one", Books.withLog(599).take(0, 1), 0);
     }
 
     private static void promise10() {
-        TyreBook x = laidWith(0, 1);
+        TyreBook x = Books.laidWith(0, 1);
         x.wagon();
         x.place(1, 4);
         x.place(1, 4);
@@ -222,14 +177,14 @@ public final class PromisesTest {
         due("left empty", x.placeOf(0, 0, 1), -9);
         due("from an empty one", x.swap(0, 0, 1, 1), 1);
         due("where", x.tyreOf(1, 6), 0);
-        due("with a full log", withLog(600).swap(0, 0, 0, 2), -6);
-        due("two, with room for one", withLog(599).swap(0, 0, 0, 1), -6);
-        due("one, with room for one", withLog(599).swap(0, 0, 0, 2), 1);
-        due("two, with room for two", withLog(598).swap(0, 0, 0, 1), 1);
+        due("with a full log", Books.withLog(600).swap(0, 0, 0, 2), -6);
+        due("two, with room for one", Books.withLog(599).swap(0, 0, 0, 1), -6);
+        due("one, with room for one", Books.withLog(599).swap(0, 0, 0, 2), 1);
+        due("two, with room for two", Books.withLog(598).swap(0, 0, 0, 1), 1);
     }
 
     private static void promise11() {
-        TyreBook x = laidWith(1);
+        TyreBook x = Books.laidWith(1);
         for (int i = 2; i <= 12; i++) {
             x.go(0, 100, true);
             due("read", x.read(0, 181 - i), i);
@@ -261,7 +216,7 @@ public final class PromisesTest {
     }
 
     private static void promise12() {
-        TyreBook x = laidWith(0, 1, 2, 3, 4);
+        TyreBook x = Books.laidWith(0, 1, 2, 3, 4);
         due("laden", x.go(0, 1000, true), 149000);
         int[] laden = {1000, 1000, 1000, 1000, 0};
         for (int t = 0; t < 5; t++) {
@@ -279,7 +234,7 @@ public final class PromisesTest {
         x.put(2, 0, 2);
         due("1", x.go(0, 1, true), 138999);
 
-        TyreBook y = laidWith(1, 3);
+        TyreBook y = Books.laidWith(1, 3);
         y.maker(0, 0);
         for (int i = 0; i < 99; i++) {
             y.go(0, 10000, false);
@@ -297,48 +252,48 @@ public final class PromisesTest {
     }
 
     private static void promise13() {
-        TyreBook x = laidWith(4, 0, 2, 2, 2, 1);
+        TyreBook x = Books.laidWith(4, 0, 2, 2, 2, 1);
         due("fit", x.why(0), -9);
         due("no wagon", x.why(1), -1);
         x.take(0, 0);
         due("a spare may be empty", x.why(0), -9);
         x.take(0, 5);
         due("an empty drive", x.why(0), 51);
-        setDepth(x, 4, 16);
+        Books.setDepth(x, 4, 16);
         due("depth below, ahead by place", x.why(0), 43);
-        setDepth(x, 2, 159);
+        Books.setDepth(x, 2, 159);
         due("21 apart", x.why(0), 24);
-        setDepth(x, 2, 160);
+        Books.setDepth(x, 2, 160);
         due("20 apart", x.why(0), 43);
         x.take(0, 3);
-        setDepth(x, 2, 20);
+        Books.setDepth(x, 2, 20);
         due("a pair without tyre", x.why(0), 31);
-        setDepth(x, 2, 19);
+        Books.setDepth(x, 2, 19);
         due("depth below 20", x.why(0), 23);
         x.take(0, 1);
         x.send(1);
         x.days(10);
         x.put(1, 0, 1);
         due("a steer with treads", x.why(0), 12);
-        setDepth(x, 1, 10);
+        Books.setDepth(x, 1, 10);
         due("treads ahead of depth", x.why(0), 12);
-        setDepth(x, 0, 15);
+        Books.setDepth(x, 0, 15);
         x.put(0, 0, 0);
         due("a spare's depth", x.why(0), 3);
 
-        TyreBook y = laidWith(2, 2);
-        setDepth(y, 1, 19);
+        TyreBook y = Books.laidWith(2, 2);
+        Books.setDepth(y, 1, 19);
         due("the first of the pair is told as apart", y.why(0), 4);
     }
 
     private static void promise14() {
-        TyreBook x = laidWith(0, 3, 4);
+        TyreBook x = Books.laidWith(0, 3, 4);
         due("far", x.far(0), 150000);
-        setDepth(x, 1, 100);
+        Books.setDepth(x, 1, 100);
         due("a lift counts", x.far(0), 84000);
-        setDepth(x, 2, 1);
+        Books.setDepth(x, 2, 1);
         due("a spare does not", x.far(0), 84000);
-        setDepth(x, 1, 15);
+        Books.setDepth(x, 1, 15);
         due("below already", x.far(0), 0);
         due("no wagon", x.far(1), -1);
         x.wagon();
@@ -348,9 +303,9 @@ public final class PromisesTest {
     }
 
     private static void promise15() {
-        TyreBook x = laidWith(0, 3);
-        setDepth(x, 0, 100);
-        setDepth(x, 1, 120);
+        TyreBook x = Books.laidWith(0, 3);
+        Books.setDepth(x, 0, 100);
+        Books.setDepth(x, 1, 120);
         due("far", x.far(0), 70000);
         due("best", x.best(0), 84000);
         due("nothing changed", x.placeOf(0, 0, 1), 0);
@@ -373,9 +328,9 @@ public final class PromisesTest {
     }
 
     private static void promise16() {
-        TyreBook x = laidWith(0, 3);
-        setDepth(x, 0, 100);
-        setDepth(x, 1, 120);
+        TyreBook x = Books.laidWith(0, 3);
+        Books.setDepth(x, 0, 100);
+        Books.setDepth(x, 1, 120);
         due("turn", x.turn(0), 2);
         due("steer", x.placeOf(0, 0, 1), 1);
         due("lift", x.placeOf(0, 1, 1), 0);
@@ -395,16 +350,16 @@ public final class PromisesTest {
 
     /** A tyre that is worn out goes onto the spare's place; the fewest change, and the lesser number goes first. */
     private static void turnToSpare() {
-        TyreBook x = laidWith(1, 1, 4, 4);
-        setDepth(x, 0, 50);
+        TyreBook x = Books.laidWith(1, 1, 4, 4);
+        Books.setDepth(x, 0, 50);
         due("turn to spare", x.turn(0), 2);
         due("place 0 has the lesser of two alike", x.placeOf(0, 0, 1), 2);
         due("the first spare has the worn one", x.placeOf(0, 2, 1), 0);
         due("the other stays", x.placeOf(0, 3, 1), 3);
 
-        TyreBook y = laidWith(1, 4);
+        TyreBook y = Books.laidWith(1, 4);
         y.place(0, 4);
-        setDepth(y, 0, 50);
+        Books.setDepth(y, 0, 50);
         due("turn with an empty spare", y.turn(0), 2);
         due("lesser number ahead of an empty place", y.placeOf(0, 1, 1), 0);
         due("empty stays behind", y.placeOf(0, 2, 1), -9);
@@ -421,7 +376,7 @@ public final class PromisesTest {
         x.put(2, 0, 1);
         x.put(1, 0, 2);
         x.put(0, 0, 0);
-        setDepth(x, 0, 30);
+        Books.setDepth(x, 0, 30);
         due("turn by number", x.turn(0), 2);
         due("tyre 1, though it stood behind", x.placeOf(0, 0, 1), 1);
         due("tyre 2 stays", x.placeOf(0, 1, 1), 2);
@@ -439,7 +394,7 @@ public final class PromisesTest {
         x.days(10);
         x.put(0, 0, 0);
         due("no way", x.turn(0), -2);
-        setDepth(x, 1, 40);
+        Books.setDepth(x, 1, 40);
         x.put(1, 0, 1);
         due("treads leave the steer, though it is worse", x.turn(0), 2);
         due("far then", x.far(0), 10000);
@@ -450,30 +405,30 @@ public final class PromisesTest {
     }
 
     private static void turnWithFullLog() {
-        TyreBook x = swappedUntil(600, 0, 3);
+        TyreBook x = Books.swappedUntil(600, 0, 3);
         due("none changes", x.turn(0), 0);
-        setDepth(x, x.placeOf(0, 0, 1), 40);
+        Books.setDepth(x, x.placeOf(0, 0, 1), 40);
         due("two would, no room", x.turn(0), -6);
         due("best still answers", x.best(0), 24000);
         due("nothing changed", x.far(0), 10000);
         due("log", x.count(7), 600);
 
-        TyreBook y = swappedUntil(598, 0, 3);
-        setDepth(y, y.placeOf(0, 0, 1), 40);
+        TyreBook y = Books.swappedUntil(598, 0, 3);
+        Books.setDepth(y, y.placeOf(0, 0, 1), 40);
         due("room for two", y.turn(0), 2);
         due("log", y.count(7), 600);
 
-        TyreBook z = swappedUntil(596, 0, 3);
+        TyreBook z = Books.swappedUntil(596, 0, 3);
         int steer = z.take(0, 0);
         z.put(steer, 0, 0);
         z.buy(0);
-        setDepth(z, steer, 40);
+        Books.setDepth(z, steer, 40);
         due("two would, room for one", z.turn(0), -6);
         due("log", z.count(7), 599);
     }
 
     private static void promise17() {
-        TyreBook x = laidWith(1, 1);
+        TyreBook x = Books.laidWith(1, 1);
         due("by mean", x.wear(0, 0), 1);
         due("lower", x.wear(0, 1), 1000);
         due("another what", x.wear(0, 2), -2);
@@ -507,13 +462,13 @@ public final class PromisesTest {
 
     /** Upper times lower number. */
     private static long wearByMean(int mean) {
-        TyreBook x = laidWith(1);
+        TyreBook x = Books.laidWith(1);
         x.maker(0, mean);
         return x.wear(0, 0) * x.wear(0, 1);
     }
 
     private static void wearInOneLength() {
-        TyreBook x = laidWith(1);
+        TyreBook x = Books.laidWith(1);
         x.go(0, 1, true);
         x.read(0, 179);
         due("1 in 1", x.wear(0, 0), 1);
@@ -525,7 +480,7 @@ public final class PromisesTest {
 
     /** The dropped reading counts no more: (0,180), then (1000,180 - i) for what is left of 13. */
     private static void wearOfThirteen() {
-        TyreBook x = laidWith(1);
+        TyreBook x = Books.laidWith(1);
         x.go(0, 1000, true);
         for (int i = 1; i <= 12; i++) {
             x.read(0, 180 - 10 * i);
@@ -536,7 +491,7 @@ public final class PromisesTest {
     }
 
     private static void wearOfNewTread() {
-        TyreBook x = laidWith(1);
+        TyreBook x = Books.laidWith(1);
         x.go(0, 1000, true);
         x.read(0, 170);
         x.read(0, 160);
@@ -552,7 +507,7 @@ public final class PromisesTest {
     }
 
     private static void promise18() {
-        TyreBook x = laidWith(1);
+        TyreBook x = Books.laidWith(1);
         due("now", x.depth(0, 0), 180);
         due("cut down", x.depth(0, 1), 179);
         due("1000", x.depth(0, 1000), 179);
@@ -571,7 +526,7 @@ public final class PromisesTest {
     }
 
     private static void promise19() {
-        TyreBook x = laidWith(1);
+        TyreBook x = Books.laidWith(1);
         due("to 20", x.end(0, 20), 160000);
         due("to 180", x.end(0, 180), 0);
         due("to 181", x.end(0, 181), 0);
@@ -597,7 +552,7 @@ public final class PromisesTest {
     }
 
     private static void promise20() {
-        TyreBook x = laidWith(1);
+        TyreBook x = Books.laidWith(1);
         x.buy(0);
         due("on a place", x.send(0), -2);
         due("no tyre", x.send(2), -1);
@@ -630,12 +585,12 @@ public final class PromisesTest {
         due("too late", x.send(3), -6);
         x.cast(3);
         due("cast, ahead of room", x.send(3), -2);
-        due("with a full log", withLog(600).send(2), -6);
-        due("with room for one", withLog(599).send(2), 10);
+        due("with a full log", Books.withLog(600).send(2), -6);
+        due("with room for one", Books.withLog(599).send(2), 10);
     }
 
     private static void promise21() {
-        TyreBook x = laidWith(1);
+        TyreBook x = Books.laidWith(1);
         x.buy(0);
         due("on a place", x.mend(0), -2);
         due("no tyre", x.mend(2), -1);
@@ -652,11 +607,11 @@ public final class PromisesTest {
         due("at the treader's", x.mend(2), -2);
         x.days(10);
         due("mends stay with the case", x.mend(2), 2);
-        due("with a full log", withLog(600).mend(2), 1);
+        due("with a full log", Books.withLog(600).mend(2), 1);
     }
 
     private static void promise22() {
-        TyreBook x = laidWith(1);
+        TyreBook x = Books.laidWith(1);
         x.buy(0);
         due("on a place", x.cast(0), -2);
         due("no tyre", x.cast(2), -1);
@@ -667,8 +622,8 @@ public final class PromisesTest {
         x.buy(0);
         x.send(2);
         due("at the treader's", x.cast(2), -2);
-        due("with a full log", withLog(600).cast(2), -6);
-        due("with room for one", withLog(599).cast(2), 1);
+        due("with a full log", Books.withLog(600).cast(2), -6);
+        due("with room for one", Books.withLog(599).cast(2), 1);
     }
 
     private static void promise23() {
@@ -683,7 +638,7 @@ public final class PromisesTest {
         due("none left", x.days(1), -6);
         due("the day", x.count(0), 2000);
 
-        TyreBook z = withLog(597);
+        TyreBook z = Books.withLog(597);
         int first = z.take(0, 0);
         z.send(2);
         z.days(3);
@@ -701,7 +656,7 @@ public final class PromisesTest {
 
     /** With room for one, the one that is back first is kept, whatever its number. */
     private static void keptByDay() {
-        TyreBook x = withLog(596);
+        TyreBook x = Books.withLog(596);
         int taken = x.take(0, 0);
         x.send(2);
         x.days(3);
@@ -713,7 +668,7 @@ public final class PromisesTest {
         due("still there on day 9", x.asOf(2, 9), -2);
         due("the later one is not told", x.asOf(taken, 23), -2);
 
-        TyreBook y = withLog(596);
+        TyreBook y = Books.withLog(596);
         int lesser = y.take(0, 0);
         y.send(2);
         y.send(lesser);
@@ -723,7 +678,7 @@ public final class PromisesTest {
     }
 
     private static void promise24() {
-        TyreBook x = laidWith(0, 1, 4);
+        TyreBook x = Books.laidWith(0, 1, 4);
         due("they last", x.few(0, 0, 150000), 0);
         due("one place more", x.few(0, 0, 150001), 1);
         due("one new lasts 150000", x.few(0, 0, 300000), 2);
@@ -741,7 +696,7 @@ public final class PromisesTest {
         due("and one more", x.few(0, 0, 160001), 3);
         x.maker(3, 1000);
         due("by the maker's mean", x.few(0, 3, 160000), 11);
-        setDepth(x, 0, 1);
+        Books.setDepth(x, 0, 1);
         due("0, though it is below already", x.few(0, 0, 0), 1);
         due("1, as it is below already", x.few(0, 0, 1), 2);
         x.place(0, 3);
@@ -812,7 +767,7 @@ public final class PromisesTest {
     }
 
     private static void promise27() {
-        TyreBook x = laidWith(1);
+        TyreBook x = Books.laidWith(1);
         x.go(0, 70, true);
         x.read(0, 140);
         due("first", x.reading(0, 0, 0), 0);
@@ -830,7 +785,7 @@ public final class PromisesTest {
     }
 
     private static void promise28() {
-        TyreBook x = laidWith(2, 0, 2, 2, 4, 2, 2);
+        TyreBook x = Books.laidWith(2, 0, 2, 2, 4, 2, 2);
         int[] pairs = {2, -9, 0, 5, -9, 3, -9};
         for (int p = 0; p < 7; p++) {
             due("pair of " + p, x.placeOf(0, p, 2), pairs[p]);
@@ -849,7 +804,7 @@ public final class PromisesTest {
     }
 
     private static void promise29() {
-        TyreBook x = laidWith(1, 1);
+        TyreBook x = Books.laidWith(1, 1);
         for (int i = 0; i < 4; i++) {
             x.buy(0);
         }
