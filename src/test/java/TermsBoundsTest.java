@@ -141,6 +141,7 @@ public final class TermsBoundsTest {
     private static void means() {
         says("MAKERS 0 .. 3 have a MEAN (0 .. 1000; 100 at first)");
         TyreBook x = new TyreBook();
+        int[] own = {501, 503, 507, 509};
         for (int m = 0; m < 4; m++) {
             x.buy(m);
             wearIs("at first, MAKER " + m, x, m, 1, 1000);
@@ -152,10 +153,13 @@ public final class TermsBoundsTest {
             wearIs("999, MAKER " + m, x, m, 999, 100000);
             x.maker(m, 0);
             wearIs("0, MAKER " + m, x, m, 0, 1);
-            x.maker(m, 50 + m);
+            x.maker(m, own[m]);
         }
         for (int m = 0; m < 4; m++) {
-            due("each its own, MAKER " + m, x.maker(m, 0), 50 + m);
+            wearIs("each its own, MAKER " + m, x, m, own[m], 100000);
+        }
+        for (int m = 0; m < 4; m++) {
+            due("each its own, MAKER " + m, x.maker(m, 0), own[m]);
         }
     }
 
@@ -291,6 +295,12 @@ public final class TermsBoundsTest {
         due("of now", x.tyreOf(0, 7), 161);
         due("of now by depth", x.depth(0, 0), 161);
         due("one more than now", x.depth(0, 1), 160);
+        TyreBook steep = Books.laidWith(DRIVE);
+        steep.go(0, 1, true);
+        steep.read(0, 179);
+        due("1 in 1, all but 1", steep.depth(0, 178), 1);
+        due("1 in 1, all", steep.depth(0, 179), 0);
+        due("1 in 1, more than all", steep.depth(0, 180), 0);
 
         TyreBook y = Books.laidWith(DRIVE);
         y.go(0, 1000, true);
@@ -440,6 +450,14 @@ public final class TermsBoundsTest {
         due("165 and 135", z.why(0), FIT);
         z.apart(29);
         due("30 are more than 29", z.why(0), 4);
+        TyreBook u = Books.laidWith(TWIN, TWIN);
+        u.apart(0);
+        u.go(0, 1, true);
+        u.read(0, 179);
+        due("179 and 179 (180 less 1 by 1000, cut down)", u.why(0), FIT);
+        u.go(0, 1000, true);
+        u.read(0, 178);
+        due("178 and 178 (180 less 1001 by 1000, cut down)", u.why(0), FIT);
     }
 
     private static void fitOrder() {
@@ -604,6 +622,16 @@ public final class TermsBoundsTest {
         Books.setDepth(z, 1, 30);
         due("turn", z.turn(0), 2);
         tyresAre("an empty PLACE behind tyre 1", z, 0, 1, -9);
+        TyreBook u = Books.placesOf(SPARE, DRIVE, SPARE);
+        for (int i = 0; i < 3; i++) {
+            u.buy(0);
+        }
+        u.put(2, 0, 0);
+        u.put(0, 0, 1);
+        u.put(1, 0, 2);
+        Books.setDepth(u, 0, 30);
+        due("turn", u.turn(0), 2);
+        tyresAre("PLACE 0 differs first: tyre 0 ahead of tyre 2, though tyre 1 would be lesser on the DRIVE", u, 0, 2, 1);
     }
 
     private static void turnWholeWagon() {
@@ -628,13 +656,14 @@ public final class TermsBoundsTest {
         says("a TYRE from the STORE with TREADS below 2 and MENDS below 3 is sent there; 10 DAYS later it is back");
         TyreBook x = Books.laidWith(DRIVE);
         x.go(0, 1000, true);
+        x.read(0, 165);
         x.read(0, 170);
         x.take(0, 0);
         x.mend(0);
         x.mend(0);
         due("sent", x.send(0), 10);
         x.days(9);
-        int[] there = {0, 0, 0, 2, 1000, 2, -2, 170, 10};
+        int[] there = {0, 0, 0, 2, 1000, 3, -2, 170, 10};
         for (int what = 0; what < there.length; what++) {
             due("behind 9 DAYS, tyreOf(0, " + what + ")", x.tyreOf(0, what), there[what]);
         }
@@ -652,6 +681,32 @@ public final class TermsBoundsTest {
         due("TREADS 2", x.tyreOf(0, 2), 2);
         due("only once for 1000 DAYS", x.count(7), 7);
         due("no third time", x.send(0), -2);
+        x.put(0, 0, 0);
+        x.go(0, 500, true);
+        x.read(0, 175);
+        wearIs("the old tread's READINGS count no more", x, 0, 1, 100);
+
+        says("10 DAYS later it is back in the STORE: each of them");
+        TyreBook all = Books.bought(40);
+        for (int t = 0; t < 40; t++) {
+            all.send(t);
+        }
+        due("all 40 are there", all.count(5), 40);
+        all.days(9);
+        due("still", all.count(5), 40);
+        all.days(1);
+        due("all 40 are back", all.count(3), 40);
+        TyreBook one = Books.bought(40);
+        for (int t = 39; t >= 0; t--) {
+            one.send(t);
+            one.days(1);
+        }
+        due("one a DAY, on DAY 40 those that were sent since 31", one.count(5), 9);
+        one.days(8);
+        due("on DAY 48 the last one", one.count(5), 1);
+        due("that was sent on DAY 39", one.tyreOf(0, 8), 49);
+        one.days(1);
+        due("on DAY 49 none", one.count(5), 0);
 
         says("that DAY above 2000");
         TyreBook y = Books.onDay(1989);
@@ -792,6 +847,25 @@ public final class TermsBoundsTest {
         due("with room for one it is kept", z.count(7), 600);
         due("and told", z.asOf(2, 10), -1);
         due("ahead of it", z.asOf(2, 9), -2);
+        TyreBook u = Books.withLog(596);
+        int lesser = u.take(0, 0);
+        u.send(2);
+        u.days(1);
+        u.send(lesser);
+        due("two are there, room for one", u.count(7), 599);
+        u.days(20);
+        due("both are back", u.count(5), 0);
+        due("the one of the earlier DAY is kept", u.asOf(2, 10), -1);
+        due("not the one of the later DAY", u.asOf(lesser, 21), -2);
+        due("where that is", u.tyreOf(lesser, 6), -1);
+        TyreBook v = Books.withLog(596);
+        int first = v.take(0, 0);
+        v.send(first);
+        v.days(1);
+        v.send(2);
+        v.days(20);
+        due("the lesser number, of the earlier DAY", v.asOf(first, 10), -1);
+        due("the greater number, of the later DAY", v.asOf(2, 21), -2);
     }
 
     private static void few() {
